@@ -918,17 +918,18 @@ public final class NobodyChecks {
 
         /** What a PERSON gets on an average, in parts of the PAY's unit times the QUESTION's total. */
         static long average(Pay pay, Question asked, long[] mass, int profile, int person) {
-            int deaf = 0;
+            // A WAY's upper bit: it answers 0 without a look; its lower bit: the answer is turned then.
+            int blind = 0;
             int turned = 0;
             for (int each = 0; each < asked.persons; each++) {
                 turned |= ((profile >> (2 * each)) & 1) << each;
-                deaf |= ((profile >> (2 * each + 1)) & 1) << each;
+                blind |= ((profile >> (2 * each + 1)) & 1) << each;
             }
             int limit = asked.signLimit();
             long unit = pay.unit();
             long sum = 0;
             for (int signs = 0; signs < limit; signs++) {
-                int answers = (signs & ~deaf) ^ turned;
+                int answers = (signs & ~blind) ^ turned;
                 int own = (answers >> person) & 1;
                 int ones = Integer.bitCount(answers) - own;
                 boolean mostAreOne = 2 * Integer.bitCount(signs) > asked.persons;

@@ -42,8 +42,11 @@ public final class AgainstPlainTest {
 
     private void go() {
         int persons = 2 + (run % 4 == 3 ? 2 : run % 2);
-        tell(text(persons));
-        question();
+        // Now and then the first calls find no question.
+        if (run % 7 != 6) {
+            tell(text(persons));
+            question();
+        }
         int payLimit = 1 + draw(persons == 4 ? 4 : 8);
         for (int k = 0; k < payLimit; k++) {
             pay(run % 5);

@@ -52,10 +52,10 @@ public final class CheapestTest {
         Due.due("no COST: all 0", x.leastTable(3), 0);
         // q3 at least q1, q0 at least q2.
         Due.due("no COST", x.leastTable(4), 55 * 55);
-        // 0 always sees 1, 1 always 0: for what never is said nothing is got.
-        NobodyChecks y = Due.asked("1:100,0");
-        int[] free = {0, 0, 0, 0};
-        for (int what = 0; what <= 3; what++) {
+        // Both always see 1: all is got by q3, and q0 and q2 are free.
+        NobodyChecks y = Due.asked("1:100,100");
+        int[] free = {0, 0, 0, 0, 55 * 100};
+        for (int what = 0; what <= 4; what++) {
             Due.due("of like ones the least", y.leastTable(what), free[what]);
         }
     }
@@ -123,6 +123,12 @@ public final class CheapestTest {
         NobodyChecks four = Due.asked("1:50,50,50,50;2:10,20,30,40;3:1,2,3,4;4:5,6,7,8;5:9,9,9,9");
         four.pay(0, 5, 0, 0, 0);
         Due.due("41 at most", four.mayBe(0, 3), 41);
+        // With p for 90 the other one's lead over answering 1 is 41 - 10 p: 31 at 100 hundredths, just enough.
+        NobodyChecks most = Due.asked("1:90,90;1:10,10");
+        most.pay(1, 100, 0, 0, 0);
+        most.cost(0, 31);
+        most.cost(1, 31);
+        Due.due("100 at most, 0 at least", most.mayBe(0, 20), 5);
     }
 
     private static void mayBeRefused() {
