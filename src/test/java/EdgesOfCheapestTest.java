@@ -15,6 +15,8 @@ public final class EdgesOfCheapestTest {
         leastLook();
         allElseAsItIs();
         noCheck();
+        byTrial();
+        oneAfterAnother();
         mayBeAtLeast();
         mayBeAtMost();
         howManyMayBe();
@@ -216,6 +218,87 @@ public final class EdgesOfCheapestTest {
         Edge.due("a CHECK", x.leastLook(4), 0);
         Edge.refused(x, "a PAY more", y -> y.leastLook(5), UNKNOWN);
         Edge.refused(x, "a PAY less", y -> y.leastLook(-1), UNKNOWN);
+    }
+
+    private static int restsByPay(String text, int cost, int kind, int... q) {
+        NobodyChecks x = Edge.withCost(Due.asked(text), cost);
+        x.pay(kind, q[0], q[1], q[2], q[3]);
+        return x.rests(0, 0, 0);
+    }
+
+    /** The first number from 0 to most that lets truth rest, each told as a PAY of its own. */
+    private static int firstByTrial(String text, int cost, int kind, int place, int most, int... q) {
+        for (int number = 0; number <= most; number++) {
+            q[place] = number;
+            if (restsByPay(text, cost, kind, q) == 1) {
+                return number;
+            }
+        }
+        return NONE;
+    }
+
+    private static void byTrial() {
+        Edge.says("by which truth rests: found by one trial after another");
+        // Leads of one least part: 1 times 33 times 2 is 1 less than 1 times 67.
+        String[] texts = {"1:1,33", "1:1,67", "3:90,20;2:30,85", "1:99,1,50;1:1,99,50", "2:80,70,60;1:30,20,10"};
+        int[] costs = {0, 0, 1, 1, 1};
+        for (int k = 0; k < texts.length; k++) {
+            NobodyChecks x = Edge.withCost(Due.asked(texts[k]), costs[k]);
+            x.pay(4, 2, 0, 60, 95);
+            Edge.due("LEAST SAME of " + texts[k], x.leastSame(), firstByTrial(texts[k], costs[k], 1, 0, 999, 0, 0, 0, 0));
+            Edge.due("LEAST LOOK of " + texts[k], x.leastLook(0), firstByTrial(texts[k], costs[k], 4, 1, 100, 2, 0, 60, 95));
+            tableByTrial(texts[k], costs[k]);
+        }
+    }
+
+    private static void tableByTrial(String text, int cost) {
+        int many = 0;
+        long least = 0;
+        int[] want = {NONE, NONE, NONE, NONE, 0};
+        for (int number = 0; number < 10000; number++) {
+            int[] q = {number / 1000, number / 100 % 10, number / 10 % 10, number % 10};
+            NobodyChecks x = Edge.withCost(Due.asked(text), cost);
+            x.pay(2, q[0], q[1], q[2], q[3]);
+            if (x.rests(0, 0, 0) == 1) {
+                long price = 0;
+                for (int person = 0; person < x.count(1); person++) {
+                    // Six weights or fewer, and 100 for each PERSON: a part of 6 000 000 is whole.
+                    price += x.worth(0, 0, person, 0) * (6L * 5 * 1000000 / x.worth(0, 0, person, 1));
+                }
+                if (many == 0 || price < least) {
+                    least = price;
+                    System.arraycopy(q, 0, want, 0, 4);
+                }
+                many++;
+            }
+        }
+        want[4] = many;
+        leastTableIs(Edge.withCost(Due.asked(text), cost), want);
+    }
+
+    private static void oneAfterAnother() {
+        Edge.says("LEAST SAME, LEAST TABLE, LEAST LOOK, MAY BE: none changes what another one answers");
+        Edge.Call[] calls = {y -> y.leastSame(), y -> y.leastTable(0), y -> y.leastTable(4), y -> y.leastLook(0),
+            y -> y.leastLook(1), y -> y.mayBe(2, 9), y -> y.mayBe(0, 40), y -> y.worth(2, 0, 1, 0)};
+        // Of one all is dear, of the other one nothing is.
+        String[] texts = {"2:90,80,85;1:10,15,20", "1:100,100"};
+        for (int k = 0; k < texts.length; k++) {
+            for (Edge.Call first : calls) {
+                for (Edge.Call second : calls) {
+                    NobodyChecks x = withPays(texts[k], 1 - k), y = withPays(texts[k], 1 - k);
+                    first.on(x);
+                    Edge.due("one behind another", second.on(x), second.on(y));
+                }
+            }
+        }
+    }
+
+    private static NobodyChecks withPays(String text, int cost) {
+        NobodyChecks x = Edge.withCost(Due.asked(text), cost);
+        x.pay(4, 1, 0, 40, 90);
+        x.pay(4, 0, 100, 4, 80);
+        x.pay(2, 9, 1, 0, 7);
+        return x;
     }
 
     /** Both see alike; truth leads by 100 times a part that hangs on the CHANCES. */

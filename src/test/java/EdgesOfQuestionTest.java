@@ -1,3 +1,6 @@
+import java.util.ArrayList;
+import java.util.List;
+
 /** The boundary cases of the text of a QUESTION, and of promises 1 to 8: a method for each sentence. */
 public final class EdgesOfQuestionTest {
     private static final int NONE = NobodyChecks.NONE, UNKNOWN = NobodyChecks.UNKNOWN,
@@ -21,6 +24,7 @@ public final class EdgesOfQuestionTest {
         ofAnyLength();
         pageIsRead();
         anotherIsGone();
+        asIfTheFirst();
         pageIsNone();
         caseOrPersonUnknown();
         costs();
@@ -330,6 +334,63 @@ public final class EdgesOfQuestionTest {
             Edge.due("COST of " + person, x.cost(person, 0), 0);
         }
         Edge.due("the first ROW", x.row(0, NONE), 1);
+    }
+
+    /** An object of eight PAYS that has been used with each of the texts as THE QUESTION, one after another. */
+    private static NobodyChecks usedWith(String... texts) {
+        NobodyChecks x = new NobodyChecks();
+        for (int pay = 0; pay < 8; pay++) {
+            x.pay(pay % 5, 9 - pay, 70 + pay, 8 - pay, 90 + pay);
+        }
+        for (String text : texts) {
+            Due.write(x, text);
+            Edge.due("question", x.question(), text.split(";")[0].split(",").length);
+            all(x);
+            Edge.withCost(x, 3);
+            x.row(4, 5);
+            all(x);
+        }
+        return x;
+    }
+
+    /** What is reckoned of THE QUESTION under all PAYS. */
+    private static List<Long> all(NobodyChecks x) {
+        List<Long> told = new ArrayList<>();
+        int persons = x.count(1);
+        for (int pay = 0; pay < 8; pay++) {
+            for (int person = 0; person < persons; person++) {
+                told.add(x.worth(pay, 0, person, 0));
+                told.add(x.worth(pay, 14, person, 1));
+            }
+            told.add((long) x.all(pay, 1));
+            told.add((long) x.mayBe(pay, 7));
+        }
+        for (int i = 0; i < persons; i++) {
+            for (int sign = 0; sign <= 1; sign++) {
+                told.add(x.thinks(i, sign, (i + 1) % persons, 0));
+                told.add(x.thinks(i, sign, (i + 1) % persons, 1));
+            }
+        }
+        told.add((long) x.leastSame());
+        told.add((long) x.leastLook(4));
+        told.add(x.digest());
+        return told;
+    }
+
+    private static void asIfTheFirst() {
+        Edge.says("THE PAGE is read as THE QUESTION (another one is gone ..)");
+        String most = Edge.many("9:91,82,73,64", ";", 3) + ";99:1,2,3,4;98:5,6,7,8";
+        String[] texts = {most, "2:80,70,60;1:10,20,30", "1:90,85", "7:1,99;3:50,40;2:30,30"};
+        for (String first : texts) {
+            for (String second : texts) {
+                NobodyChecks again = usedWith(first, second), once = usedWith(second);
+                Edge.due(second + " behind " + first, all(again).equals(all(once)) ? 1 : 0, 1);
+            }
+        }
+        // Of five CASES each counts.
+        NobodyChecks five = Due.asked("1:10,0;2:10,0;3:10,0;4:10,0;5:10,100");
+        Edge.due("5 of 15", five.thinks(0, 1, 1, 0), 1);
+        Edge.due("5 of 15", five.thinks(0, 0, 1, 1), 3);
     }
 
     private static void pageIsNone() {

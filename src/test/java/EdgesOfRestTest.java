@@ -5,6 +5,7 @@ public final class EdgesOfRestTest {
 
     public static void main(String[] args) {
         nobodyIsWorthMore();
+        worthMoreByOnePart();
         gainIsNothing();
         leastPerson();
         leastWay();
@@ -61,6 +62,27 @@ public final class EdgesOfRestTest {
         Edge.due("one part for 1", x.rests(1, 15, 0), 1);
         Edge.due("one part for 0", x.rests(2, 15, 0), 0);
         Edge.due("one part for 0", x.rests(2, 10, 0), 1);
+    }
+
+    private static void worthMoreByOnePart() {
+        Edge.says("AT REST .. GAIN .. A GROUP GAINS (by the least part that there is)");
+        // 0 sees 1: 7289 times of 20000 so does 1, 4111 times it does not; 141 times 7289 is one less than 250 times 4111.
+        NobodyChecks x = Due.asked("1:73,83;1:41,30");
+        x.pay(2, 250, 0, 0, 141);
+        x.pay(2, 250, 0, 0, 142);
+        Edge.due("truth", x.rests(0, 0, 0), 0);
+        Edge.due("FIRST", x.rests(0, 0, 1), 0);
+        Edge.due("BEST", x.rests(0, 0, 2), 2);
+        Edge.due("GAIN above", x.gain(0, 0, 0, 0), 1);
+        Edge.due("GAIN below", x.gain(0, 0, 0, 1), 20000);
+        Edge.due("GAIN of 1", x.gain(0, 0, 1, 0), 0);
+        Edge.due("GROUP", x.group(0, 0, 0), 1);
+        Edge.due("its PROFILE", x.group(0, 0, 1), 2);
+        Edge.due("MAY BE as it is", x.mayBe(0, 0), 0);
+        Edge.due("DRAWN", x.drawn(0), 0);
+        Edge.due("truth with one more", x.rests(1, 0, 0), 1);
+        Edge.due("GAIN with one more", x.gain(1, 0, 0, 0), 0);
+        Edge.due("MAY BE with one more", x.mayBe(1, 0), 9);
     }
 
     private static void gainIsNothing() {

@@ -11,6 +11,7 @@ public final class EdgesOfToldTest {
         countRefused();
         digestOfNothing();
         digestOfMost();
+        digestOfParts();
         digestChangesNothing();
         digestTellsAll();
         last512th();
@@ -112,6 +113,37 @@ public final class EdgesOfToldTest {
     private static void digestOfMost() {
         Edge.says("31 times h, and it (as longs, wrapping)");
         Edge.due("digest of a full one", full().digest(), digestOf(full()));
+    }
+
+    private static void digestOfParts() {
+        Edge.says("whether truth rests (1, 0), all(.., 0), WORTH of PERSON 0 by truth above, below");
+        // 0 looks at a COST of 2, and sees with 1 alike in a half; 1 always sees 1, and 2 always 0.
+        NobodyChecks x = Due.asked("1:50,100,0");
+        x.pay(2, 0, 0, 1, 2);
+        x.pay(1, 0, 0, 0, 0);
+        x.cost(0, 2);
+        List<Long> told = new ArrayList<>(List.of(1L, 50L, 100L, 0L, 2L, 0L, 0L));
+        // To answer 0 gives nothing, 1 gives 1 for each 0 and 2 for each 1: 3 in a half of the times, less 2.
+        long answersOne = 0;
+        for (int profile = 0; profile < 64; profile++) {
+            answersOne += x.rests(0, profile, 0);
+        }
+        told.addAll(List.of(2L, 0L, 0L, 1L, 2L, 0L, answersOne, -1L, 2L));
+        x.cost(0, 0);
+        // Without a COST all rest where nothing is paid.
+        Edge.due("all rest", x.all(1, 0), 64);
+        x.cost(0, 2);
+        // Who looks does not rest: 0 has two WAYS, the others have four.
+        told.addAll(List.of(1L, 0L, 0L, 0L, 0L, 0L, 32L, -2L, 1L));
+        told.addAll(List.of(1L, 3L, 2L, 0L, 0L, 0L));
+        Edge.due("digest", x.digest(), mixed(told));
+        // 1 and 2 always see what is so, 0 in three of four: 3 for each of them, to 1 for 2 and for 0 in three of four.
+        NobodyChecks rests = Due.asked("1:75,100,100;1:25,0,0");
+        rests.pay(1, 3, 0, 0, 0);
+        long all = rests.all(0, 0);
+        Edge.due("of 1 below", rests.worth(0, 0, 1, 1), 4);
+        Edge.due("digest", rests.digest(), mixed(List.of(1L, 75L, 100L, 100L, 1L, 25L, 0L, 0L, 0L, 0L, 0L,
+            1L, 3L, 0L, 0L, 0L, 1L, all, 9L, 2L, 2L, 3L, 1L, 0L, 0L, 0L)));
     }
 
     private static void digestChangesNothing() {
