@@ -14,6 +14,10 @@ final class Due {
         }
     }
 
+    static int held() {
+        return held;
+    }
+
     static void end() {
         System.out.println(held + " answers held, " + wrong + " not as due");
         if (wrong != 0) {
