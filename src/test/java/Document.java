@@ -9,6 +9,8 @@ import java.nio.file.Path;
 final class Document {
     private static final Path PLACE = Path.of("../shared/DOC.md");
 
+    /** Whether the document is there; without it the answers alone are held. */
+    private static boolean isHere = false;
     private static String left = "";
     private static String sentence = "";
     private static boolean owes = false;
@@ -18,6 +20,11 @@ final class Document {
     }
 
     static void open() throws IOException {
+        isHere = Files.exists(PLACE);
+        if (!isHere) {
+            System.out.println(PLACE + " is not here: answers are held, but not whether a sentence is left out");
+            return;
+        }
         StringBuilder text = new StringBuilder();
         for (String line : Files.readAllLines(PLACE)) {
             text.append(line.startsWith("```") ? "" : line).append(' ');
@@ -38,8 +45,11 @@ final class Document {
         heldAhead = Due.held();
     }
 
-    /** What comes next, up to these words and with them. */
+    /** What comes next, up to these words and with them; nothing, if the document is not there. */
     static String takeUntil(String last) {
+        if (!isHere) {
+            return "";
+        }
         int end = left.indexOf(last);
         String taken = end < 0 ? left : left.substring(0, end + last.length());
         says(taken);
@@ -54,6 +64,9 @@ final class Document {
         boolean wasHeld = !owes || Due.held() > heldAhead;
         Due.due("answers are held for: " + sentence, wasHeld ? 1 : 0, 1);
         sentence = quoted;
+        if (!isHere) {
+            return;
+        }
         int found = left.indexOf(quoted);
         Due.due("comes next in the document: " + quoted, found, 0);
         if (found >= 0) {

@@ -98,9 +98,9 @@ final class PromisesOfPays {
         Document.heads("## Promise 4: fault `int fault()`:");
         Document.says("The place (from 0) of the first letter of THE PAGE that no QUESTION (of any length, but CASES and PERSONS no more "
             + "than told) has there, behind those ahead of it;");
-        String[] ahead = {"", "1", "12", "1:", "1:0", "1:1", "1:10", "1:100", "1:5,", "1:5,6", "1:5,6,7,8", "1:5,6;", "1:5,6;7:8",
+        String[] ahead = {"", "0", "1", "12", "1:", "1:0", "1:1", "1:10", "1:100", "1:5,", "1:5,6", "1:5,6,7,8", "1:5,6;", "1:5,6;7:8",
             "1:5,6;7:8,9", "1:5,6;1:5,6;1:5,6;1:5,6;1:5,6"};
-        String[] then = {"0123456789", "0123456789:", ":", "0123456789", ",", "0123456789,", "0,", ",", "0123456789", "0123456789,;",
+        String[] then = {"0123456789", "123456789", "0123456789:", ":", "0123456789", ",", "0123456789,", "0,", ",", "0123456789", "0123456789,;",
             "0123456789;", "0123456789", "0123456789,", "0123456789;", "0123456789"};
         for (int k = 0; k < ahead.length; k++) {
             for (int code = 1; code <= 126; code++) {
@@ -129,6 +129,9 @@ final class PromisesOfPays {
         x.cost(1, 9);
         x.row(0, NONE);
         x.pay(1, 5, 0, 0, 0);
+        x.pay(0, 7, 0, 0, 0);
+        x.worth(0, 0, 0, 0);
+        x.worth(1, 0, 0, 0);
         Due.write(x, "10:20,30");
         Document.due("PERSONS", x.question(), 2);
         Document.due("CASES", x.count(0), 1);
@@ -139,8 +142,12 @@ final class PromisesOfPays {
         Document.due("COST of 0", x.cost(0, 0), 0);
         Document.due("COST of 1", x.cost(1, 0), 0);
         Document.due("ROWS", x.count(3), 0);
-        Document.due("PAYS stay", x.count(2), 1);
+        Document.due("PAYS stay", x.count(2), 2);
         Document.due("THE PAGE", x.count(4), 0);
+        // Both see the same in 600 and 5600 of 10000: 5 times that.
+        Document.due("WORTH above", x.worth(0, 0, 0, 0), 31);
+        Document.due("WORTH below", x.worth(0, 0, 0, 1), 10);
+        Document.due("WORTH of a PAY", x.worth(1, 0, 1, 0), 7);
         Document.says("STATE: it is none.");
         String[] none = {"", "1", "1:", "1:2", "1:2,", "1:2,3;", "1:2,3;4", "1:2,3;4:", "1:2,3;4:5", "1:2,3;4:5,", "1:2,3?", "?1:2,3"};
         for (String text : none) {

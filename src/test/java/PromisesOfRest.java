@@ -39,6 +39,7 @@ final class PromisesOfRest {
     static void refusals() {
         NobodyChecks x = sample(), none = withoutQuestion();
         String[] names = {"rests", "all", "group", "goes"};
+        int[] nextWhat = {3, 2, 2, 3};
         Call[] calls = {(y, pay, profile, what) -> y.rests(pay, profile, what), (y, pay, profile, what) -> y.all(pay, what),
             (y, pay, profile, what) -> y.group(pay, profile, what), (y, pay, profile, what) -> y.goes(pay, profile, what)};
         for (int k = 0; k < calls.length; k++) {
@@ -52,7 +53,8 @@ final class PromisesOfRest {
             }
             Document.refused(x, names[k] + ": the next pay", y -> call.on(y, 3, 0, 0), UNKNOWN);
             Document.refused(none, names[k] + ": QUESTION", y -> call.on(y, 0, 0, 0), STATE);
-            Document.refused(x, names[k] + ": the next what", y -> call.on(y, 0, 0, 3), OUTSIDE);
+            int next = nextWhat[k];
+            Document.refused(x, names[k] + ": the next what", y -> call.on(y, 0, 0, next), OUTSIDE);
             for (int wrong : new int[] {-1, 16, Integer.MIN_VALUE, Integer.MAX_VALUE}) {
                 if (k != 1) {
                     Document.refused(x, names[k] + ": profile", y -> call.on(y, 0, wrong, 0), OUTSIDE);

@@ -184,7 +184,31 @@ final class PromisesOfTold {
         add(numbers, '9', ':', ';', '~');
         add(numbers, 2, 3, 4, 2, 4, 1);
         Document.due("digest", x.digest(), mixed(numbers));
+        truthRests();
         withoutQuestion();
+    }
+
+    /** Two who see what is so: by a SAME of 10 truth is at rest, and three more; by a PAY all are. */
+    private static void truthRests() {
+        NobodyChecks x = Edge.allSee(3, 1, 2);
+        x.pay(1, 10, 0, 0, 0);
+        x.pay(0, 7, 0, 0, 0);
+        List<Long> numbers = new ArrayList<>();
+        add(numbers, 3, 100, 100, 1, 0, 0, 0, 0);
+        add(numbers, 1, 10, 0, 0, 0, 1, 4, 10, 1);
+        add(numbers, 0, 7, 0, 0, 0, 1, 16, 7, 1);
+        add(numbers, 2, 2, 2, 0, 0, 0);
+        Document.due("where truth rests", x.digest(), mixed(numbers));
+        x.cost(0, 999);
+        numbers.set(6, 999L);
+        // No PROFILE rests where PERSON 0 looks: by the PAY half of them are left.
+        numbers.set(13, 0L);
+        numbers.set(14, (long) x.all(0, 0));
+        numbers.set(15, 10L - 999);
+        numbers.set(22, 0L);
+        numbers.set(23, 8L);
+        numbers.set(24, 7L - 999);
+        Document.due("where it does not", x.digest(), mixed(numbers));
     }
 
     private static void withoutQuestion() {

@@ -17,10 +17,11 @@ import java.util.regex.Pattern;
  * every call of the document's face and of every test.
  */
 public final class ReadmeTest {
-    private static final Path README = Path.of("README.md"), DOCUMENT = Path.of("../shared/DOC.md");
+    private static final Path README = Path.of("README.md"), DOCUMENT = Path.of("../shared/DOC.md"),
+        SOURCE = Path.of("src/main/java/NobodyChecks.java");
     private static final Pattern MADE = Pattern.compile("NobodyChecks x = new NobodyChecks\\(\\);"),
         CALL = Pattern.compile("(?:(int|long) (\\w+) = )?x\\.(\\w+)\\((.*)\\); +// (-?\\d+|[A-Z]+)(?:: .+)?"),
-        FACE = Pattern.compile("public ((?:int|long) \\w+\\(.*\\));");
+        FACE = Pattern.compile("public ((?:int|long) \\w+\\(.*\\))(?:;| \\{)");
 
     private final Set<String> called = new TreeSet<>();
     private final Map<String, Long> kept = new HashMap<>();
@@ -113,8 +114,9 @@ public final class ReadmeTest {
 
     /** Every call stands at the head of a line of a table, as the document's face writes it. */
     private static void tellsOfCalls(List<String> lines) throws IOException {
+        Path face = Files.exists(DOCUMENT) ? DOCUMENT : SOURCE;
         int found = 0;
-        for (String line : Files.readAllLines(DOCUMENT)) {
+        for (String line : Files.readAllLines(face)) {
             Matcher m = FACE.matcher(line.trim());
             if (m.matches()) {
                 found++;

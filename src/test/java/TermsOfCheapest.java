@@ -65,6 +65,11 @@ final class TermsOfCheapest {
                 Document.due(sample.text + ": " + what, x.leastTable(what), what == 4 ? many : want[what]);
             }
         }
+        // All always see 1: by truth they get q3, 0 at least; q0 and q2 may be what they like.
+        for (int what = 0; what <= 3; what++) {
+            Document.due("of like ones", Due.asked("1:100,100").leastTable(what), 0);
+            Document.due("of like ones", Due.asked("1:0,0,0,0").leastTable(what), 0);
+        }
     }
 
     /** What all together are WORTH by truth; the COSTS are like for all TABLES. */
